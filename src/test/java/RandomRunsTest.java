@@ -75,6 +75,7 @@ public final class RandomRunsTest {
             int height = random.nextInt(3) == 0 ? 8 + random.nextInt(13) : 20;
             int far = random.nextInt(4) == 0 ? 50 : 9;
             call("shoot", width, height, x + random.nextInt(far), y + random.nextInt(far), gain);
+            gain = kind == 2 ? 8 + random.nextInt(24) : gain;
         }
         for (int k = 0; k < random.nextInt(40); k++) {
             call("dot", random.nextInt(4), random.nextInt(20), random.nextInt(20), random.nextInt(257) - 1);
