@@ -17,6 +17,7 @@ public final class BoundsOfMatchesTest {
         firstOfSeveralFromA();
         firstOfSeveralFromB();
         leastBothWays();
+        matchWithoutMarks();
         matchOfEachMark();
         twoVotesAtLeast();
         mostVotes();
@@ -139,6 +140,19 @@ public final class BoundsOfMatchesTest {
         int nearer = x.mark(0, 0, 3) == 1 ? 0 : 1;
         Check.due("one off", x.match(0, nearer, 1), 0);
         Check.due("two off", x.match(0, 1 - nearer, 1), NONE);
+    }
+
+    /** Promise 12: "NONE": b has no MARKS, or has none any more. */
+    private static void matchWithoutMarks() {
+        PictureJoin x = dim(2, 12);
+        mark(x, 0, 0, 0, 0, 0, 0);
+        Check.due("b has none yet", x.match(0, 0, 1), NONE);
+        mark(x, 1, 0, 0, 1, 1, 0);
+        Check.due("b has one", x.match(0, 0, 1), 0);
+        x.dot(1, 10, 10, -1);
+        Check.due("b has none any more", x.match(0, 0, 1), NONE);
+        Check.due("no MARK of b", x.match(1, 0, 0), UNKNOWN);
+        Check.due("MATCHES", x.shift(0, 1, 3), 0);
     }
 
     /** Promise 12: "UNKNOWN: also a and b are one": no mark but those that there are. */

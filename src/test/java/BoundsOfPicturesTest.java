@@ -32,12 +32,14 @@ public final class BoundsOfPicturesTest {
         nearFromZeroToTwelve();
         scoreFromThreeToFourOff();
         scoreOfEachWay();
+        scoreOfLost();
         markOfBarOrMore();
         barOfFiveThousandAtFirst();
         noMarkOfAMillion();
         markAmongTwentyFour();
         for (int marks = 15; marks <= 20; marks++) {
             sixteenMarksAtMost(marks);
+            sixteenMarksAtMostDownwards(marks);
         }
         signOfTwelveBits();
         signOfLost();
@@ -518,6 +520,42 @@ public final class BoundsOfPicturesTest {
         Check.due("no mark behind the last" + of, x.mark(0, Math.min(spots, 16), 0), UNKNOWN);
         Check.due("UNKNOWN ahead of OUTSIDE" + of, x.mark(0, Math.min(spots, 16), 4), UNKNOWN);
         Check.due("OUTSIDE at the last" + of, x.mark(0, Math.min(spots, 16) - 1, 4), OUTSIDE);
+    }
+
+    /** As sixteenMarksAtMost, but each row is dimmer than all rows above it: the marks left out are the last. */
+    private static void sixteenMarksAtMostDownwards(int spots) {
+        PictureJoin x = plain(20, 20, PLAIN);
+        for (int k = 0; k < spots; k++) {
+            x.dot(0, 4 + k % 5 * 3, 3 + k / 5 * 4, PLAIN + 195 - 45 * (k / 5) + 10 * (k % 5));
+        }
+        String of = " of " + spots + " spots downwards";
+        Check.due("marks" + of, x.marks(0), Math.min(spots, 16));
+        int m = 0;
+        for (int row = 0; row < 4; row++) {
+            for (int column = Math.min(5, spots - 5 * row) - 1; column >= 0; column--) {
+                Check.due("i of mark " + m + of, x.mark(0, m, 0), m < 16 ? 3 + column * 3 : UNKNOWN);
+                Check.due("j of mark " + m + of, x.mark(0, m, 1), m < 16 ? 3 + row * 4 : UNKNOWN);
+                m++;
+            }
+        }
+    }
+
+    /** "0, if one of the DOTS is LOST": each of those that a sum asks for; of the others none. */
+    private static void scoreOfLost() {
+        PictureJoin x = plain(8, 8, PLAIN);
+        x.dot(0, 5, 4, PLAIN + 100);
+        for (int k = 0; k < 64; k++) {
+            int i = k % 8;
+            int j = k / 8;
+            // the 9 dots about 4, 4, and those one off from them to the right, down, right and down, right and up
+            boolean about = Math.abs(i - 4) <= 1 && Math.abs(j - 4) <= 1;
+            boolean right = Math.abs(i - 5) <= 1 && Math.abs(j - 4) <= 2;
+            boolean down = Math.abs(i - 4) <= 1 && Math.abs(j - 5) <= 1;
+            int was = x.dot(0, i, j, -1);
+            Check.due("score with " + i + ", " + j + " lost", x.score(0, 4, 4), about || right || down ? 0 : 20000);
+            x.dot(0, i, j, was);
+        }
+        Check.due("score with none lost", x.score(0, 4, 4), 20000);
     }
 
     /** "12 bits; bit k is 1, if the DOT at (k % 5 - 2, k % 3 - 1) from it is below that at (2 - k % 4, k % 5 - 2)". */
