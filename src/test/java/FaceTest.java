@@ -39,15 +39,12 @@ public final class FaceTest {
         Check.due("it is public", face.getDeclaredConstructors()[0].getModifiers(), Modifier.PUBLIC);
         Check.due("without arguments", face.getDeclaredConstructors()[0].getParameterCount(), 0);
         Set<String> calls = new TreeSet<>();
-        Set<String> names = new TreeSet<>();
         for (String call : FACE) {
             calls.add("int " + call);
-            names.add(call.substring(0, call.indexOf('(')));
         }
         Set<String> found = new TreeSet<>();
         for (Method method : face.getDeclaredMethods()) {
             if (Modifier.isPrivate(method.getModifiers()) || method.isSynthetic()) {
-                Check.that("no private method is named as one of the face: " + method, !names.contains(method.getName()));
                 continue;
             }
             Check.due("public alone: " + method, method.getModifiers(), Modifier.PUBLIC);
@@ -84,7 +81,30 @@ public final class FaceTest {
                 int own = field.getModifiers();
                 Check.that(field + " is no static state", !Modifier.isStatic(own) || Modifier.isFinal(own));
             }
+            sizes(type);
         }
+        sizes(PictureJoin.class);
+    }
+
+    private static void sizes(Class<?> type) {
+        int fields = 0;
+        for (Field field : type.getDeclaredFields()) {
+            fields += Modifier.isStatic(field.getModifiers()) ? 0 : 1;
+        }
+        Check.that("some twenty fields at most: " + type, fields <= 20);
+        for (Method method : type.getDeclaredMethods()) {
+            Check.that("seven parameters at most: " + method, method.getParameterCount() <= 7);
+            boolean named = Modifier.isPrivate(method.getModifiers()) && namesOfFace().contains(method.getName());
+            Check.that("no private method is named as one of the face: " + method, !named);
+        }
+    }
+
+    private static Set<String> namesOfFace() {
+        Set<String> names = new TreeSet<>();
+        for (String call : FACE) {
+            names.add(call.substring(0, call.indexOf('(')));
+        }
+        return names;
     }
 
     private static void source(String text) {
